@@ -460,7 +460,8 @@ public final class PostRopes {
     }
 
     private void layLeast(Word word, Word into) {
-        layLoop(word);
+        loop.copyFrom(word);
+        loop.tighten();
         into.copyFromStart(loop, loop.leastStart());
     }
 

@@ -9,6 +9,7 @@ public final class AllTests {
         PromiseTests.all();
         FaceTest.all(args.length > 0 ? args[0] : "src/main/java/PostRopes.java");
         RoomTest.all();
+        ModelRuns.shortWords();
         ModelRuns.all();
         System.out.println(Checks.passed + " passed, " + Checks.failed + " failed");
         if (Checks.failed != 0) {

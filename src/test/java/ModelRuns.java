@@ -24,6 +24,35 @@ final class ModelRuns {
         }
     }
 
+    /** All short words at two posts: their cuts, by trying out all that could be cut. */
+    static void shortWords() {
+        for (int length = 1; length <= 6; length++) {
+            for (int number = 0; number < 1 << 2 * length; number++) {
+                StringBuilder word = new StringBuilder();
+                for (int i = 0; i < length; i++) {
+                    word.append("abAB".charAt(number >> 2 * i & 3));
+                }
+                PostRopes ropes = new PostRopes();
+                Checks.load(ropes, 0, word.toString());
+                Checks.due("cuts of " + word, ropes.cuts(0), cutsByTrying(word.toString()));
+            }
+        }
+    }
+
+    private static int cutsByTrying(String word) {
+        int least = word.length();
+        for (int cut = 0; cut < 1 << word.length(); cut++) {
+            StringBuilder left = new StringBuilder();
+            for (int i = 0; i < word.length(); i++) {
+                left.append((cut >> i & 1) == 0 ? word.substring(i, i + 1) : "");
+            }
+            if (Integer.bitCount(cut) < least && Model.pulled(left.toString()).isEmpty()) {
+                least = Integer.bitCount(cut);
+            }
+        }
+        return least;
+    }
+
     private void play() {
         int call = 0;
         while (call < CALLS && wrong == 0) {

@@ -283,6 +283,12 @@ final class PromiseTests {
         before = Checks.state(w);
         due("9: 123 are too many", w.swap(0, 0), TOO_MANY);
         same("9: no rope is changed then", Checks.state(w), before);
+        for (int rope = 0; rope < 4; rope++) {
+            PostRopes t = new PostRopes();
+            Checks.load(t, rope, "((ac)5)6a");
+            due("9: whichever rope it is", t.swap(0, 0), TOO_MANY);
+            due("9: the other way it is renamed", t.swap(0, 1), 61);
+        }
         PostRopes v = Checks.with("((ac)5)6");
         due("9: 120 are not", v.swap(0, 0), 120);
         PostRopes u = Checks.with("a9a9a9a9a9a9a9a9a9a9");
@@ -500,6 +506,13 @@ final class PromiseTests {
         for (int what = 0; what < wants.length; what++) {
             due("15: " + what + " of " + text, x.ofRope(1, what), wants[what]);
         }
+        x.cross(2, 2);
+        for (int what = wants.length - 1; what >= 0; what--) {
+            x.falls(2, 0);
+            x.least(2, 0);
+            due("15: after other calls " + what + " of " + text, x.ofRope(1, what), wants[what]);
+        }
+        x.undo();
         same("15: nothing changes", Checks.state(x), before);
     }
 
@@ -712,6 +725,8 @@ final class PromiseTests {
         PostRopes x = Checks.with(text);
         String before = Checks.state(x);
         due("22: cuts of " + text, x.cuts(0), want);
+        due("22: of another rope", x.cuts(1), 0);
+        due("22: cuts again of " + text, x.cuts(0), want);
         same("22: nothing changes", Checks.state(x), before);
     }
 
@@ -733,6 +748,9 @@ final class PromiseTests {
         cutsDue("bAabCBc", 3);
         cutsDue("bcAaCdB", 1);
         cutsDue("a9b9A9B9", 18);
+        cutsDue("ca2bAdAeb", 5);
+        cutsDue("abaBA", 1);
+        cutsDue("abacABaC", 4);
         PostRopes x = Checks.with("((ab)5(ab)5)6");
         due("22: nothing cancels", x.cuts(0), 120);
         for (int rope : NO_ROPES) {
@@ -801,6 +819,11 @@ final class PromiseTests {
     private static void undo() {
         PostRopes x = new PostRopes();
         due("25: nothing to undo", x.undo(), NOT_POSSIBLE);
+        for (int post = 0; post < 6; post++) {
+            x.width(post, 30 + post);
+            due("25: the width is undone", x.undo(), 0);
+            due("25: it is as before", x.count(post), 1);
+        }
         x.width(2, 30);
         x.cross(1, 4);
         due("25: the crossing is undone", x.undo(), 1);
