@@ -1,12 +1,14 @@
 import java.io.IOException;
 
-/** Runs every test of the project; the first argument is the path of the program's source. */
+/** Runs every test of the project; the arguments are the paths of the program's source and of the document. */
 public final class AllTests {
     private AllTests() {
     }
 
     public static void main(String[] args) throws IOException {
         PromiseTests.all();
+        Edges.all();
+        DocTest.all(args.length > 1 ? args[1] : "../shared/DOC.md");
         FaceTest.all(args.length > 0 ? args[0] : "src/main/java/PostRopes.java");
         RoomTest.all();
         ModelRuns.shortWords();

@@ -1,10 +1,12 @@
 /** Long runs of calls that look random but are the same each time; each answer has to be the model's. */
 final class ModelRuns {
     private static final int RUNS = 400;
-    private static final int CALLS = 512;
+    // Reading one long text takes the most: it is emptied, put in pieces, looked at and loaded.
+    private static final int MOST_IN_A_STEP = 20;
+    private static final int LONGEST_TEXT = 72;
     private static final int KINDS = 26;
 
-    private final PostRopes program = new PostRopes();
+    private final CountedRopes program = new CountedRopes();
     private final Model model = new Model();
     private final int posts;
     private final int run;
@@ -32,7 +34,7 @@ final class ModelRuns {
                 for (int i = 0; i < length; i++) {
                     word.append("abAB".charAt(number >> 2 * i & 3));
                 }
-                PostRopes ropes = new PostRopes();
+                CountedRopes ropes = new CountedRopes();
                 Checks.load(ropes, 0, word.toString());
                 Checks.due("cuts of " + word, ropes.cuts(0), cutsByTrying(word.toString()));
             }
@@ -54,28 +56,25 @@ final class ModelRuns {
     }
 
     private void play() {
-        int call = 0;
-        while (call < CALLS && wrong == 0) {
-            call += step();
+        while (program.calls() + MOST_IN_A_STEP <= CountedRopes.MOST_CALLS && wrong == 0) {
+            step();
         }
     }
 
-    private int step() {
+    private void step() {
         int kind = below(KINDS + 14);
         if (kind >= KINDS + 10) {
-            return loadText();
+            loadText();
+        } else if (kind >= KINDS + 3) {
+            crossOften();
+        } else if (kind >= KINDS) {
+            askOneRope();
+        } else {
+            one(kind, rope(), any());
         }
-        if (kind >= KINDS + 3) {
-            return crossOften();
-        }
-        if (kind >= KINDS) {
-            return askOneRope();
-        }
-        one(kind, rope(), any(kind), any(kind));
-        return 1;
     }
 
-    private void one(int kind, int rope, int a, int b) {
+    private void one(int kind, int rope, int a) {
         switch (kind) {
             case 0: { int post = near(6), width = near(100); due("width " + post + " " + width, program.width(post, width), model.width(post, width)); break; }
             case 1: due("cross " + rope + " " + a, program.cross(rope, a), model.cross(rope, a)); break;
@@ -106,16 +105,15 @@ final class ModelRuns {
         }
     }
 
-    private int crossOften() {
+    private void crossOften() {
         int rope = below(4);
         int many = 1 + below(6);
         for (int i = 0; i < many; i++) {
-            one(1, rope, crossing(), 0);
+            one(1, rope, crossing());
         }
-        return many;
     }
 
-    private int askOneRope() {
+    private void askOneRope() {
         int rope = below(4);
         for (int what = 0; what <= 8; what++) {
             due("ofRope " + rope + " " + what, program.ofRope(rope, what), model.ofRope(rope, what));
@@ -123,25 +121,22 @@ final class ModelRuns {
         for (int place = 0; place < 8; place++) {
             due("least " + rope + " " + place, program.least(rope, place), model.least(rope, place));
         }
-        return 17;
     }
 
-    private int loadText() {
+    private void loadText() {
         int rope = rope();
         String text = text(0, 1 + below(5));
         if (below(4) == 0) {
             text = spoiled(text);
         }
-        one(9, 0, 0, 0);
-        int calls = 3;
+        text = text.substring(0, Math.min(text.length(), LONGEST_TEXT));
+        one(9, 0, 0);
         for (int i = 0; i < text.length(); i += 8) {
             long number = Checks.number(text.substring(i, Math.min(text.length(), i + 8)));
             due("put " + number, program.put(number), model.put(number));
-            calls++;
         }
-        one(10, 0, 0, 0);
-        one(11, rope, 0, 0);
-        return calls;
+        one(10, 0, 0);
+        one(11, rope, 0);
     }
 
     private String text(int depth, int parts) {
@@ -187,12 +182,12 @@ final class ModelRuns {
         return number;
     }
 
-    private int any(int kind) {
+    private int any() {
         return below(12) == 0 ? near(12) : crossing();
     }
 
     private int rope() {
-        return below(15) == 0 ? near(4) : below(4);
+        return below(25) == 0 ? outside(4) : below(4);
     }
 
     private int crossing() {
@@ -201,11 +196,14 @@ final class ModelRuns {
 
     /** Mostly in range, at times one beside it, seldom far away. */
     private int near(int bound) {
-        int kind = below(40);
+        return below(13) == 0 ? outside(bound) : below(bound);
+    }
+
+    private int outside(int bound) {
+        int kind = below(3);
         if (kind == 0) return -1;
         if (kind == 1) return bound;
-        if (kind == 2) return below(2) == 0 ? Integer.MIN_VALUE : Integer.MAX_VALUE;
-        return below(bound);
+        return below(2) == 0 ? Integer.MIN_VALUE : Integer.MAX_VALUE;
     }
 
     private int below(int bound) {

@@ -49,7 +49,7 @@ final class PromiseTests {
     }
 
     private static void newObject() {
-        PostRopes x = new PostRopes();
+        CountedRopes x = new CountedRopes();
         for (int post = 0; post < 6; post++) {
             due("1: width at first", x.count(post), 1);
         }
@@ -62,7 +62,7 @@ final class PromiseTests {
         due("1: nothing to undo", x.count(8), 0);
         due("1: nothing saved", x.restore(0), NOT_POSSIBLE);
         due("1: nothing saved in the other slot", x.restore(1), NOT_POSSIBLE);
-        PostRopes y = new PostRopes();
+        CountedRopes y = new CountedRopes();
         x.cross(0, 1);
         x.width(0, 9);
         due("1: objects share no rope", y.ofRope(0, 0), 0);
@@ -70,7 +70,7 @@ final class PromiseTests {
     }
 
     private static void width() {
-        PostRopes x = new PostRopes();
+        CountedRopes x = new CountedRopes();
         due("2: the previous one", x.width(0, 99), 1);
         due("2: the previous one again", x.width(0, 1), 99);
         due("2: the last post", x.width(5, 42), 1);
@@ -90,7 +90,7 @@ final class PromiseTests {
     }
 
     private static void cross() {
-        PostRopes x = new PostRopes();
+        CountedRopes x = new CountedRopes();
         due("3: first", x.cross(0, 0), 1);
         due("3: second", x.cross(0, 11), 2);
         due("3: nothing is pulled", x.cross(0, 5), 3);
@@ -104,7 +104,7 @@ final class PromiseTests {
         due("3: no crossing below", x.cross(0, -1), BAD_VALUE);
         due("3: no crossing above", x.cross(0, 12), BAD_VALUE);
         same("3: errors change nothing", Checks.state(x), before);
-        PostRopes y = Checks.with("(aB)9", "");
+        CountedRopes y = Checks.with("(aB)9", "");
         for (int length = 19; length <= 120; length++) {
             due("3: longer", y.cross(0, 1), length);
         }
@@ -115,7 +115,7 @@ final class PromiseTests {
     }
 
     private static void back() {
-        PostRopes x = Checks.with("abcdef");
+        CountedRopes x = Checks.with("abcdef");
         due("4: one", x.back(0, 1), 5);
         due("4: two", x.back(0, 2), 3);
         same("4: from the end", Checks.word(x, 0), "abc");
@@ -133,12 +133,12 @@ final class PromiseTests {
         same("4: errors change nothing", Checks.state(x), before);
         due("4: all", x.back(0, 3), 0);
         due("4: one change more", x.undo() >= 0 ? x.ofRope(0, 0) : -9, 3);
-        PostRopes y = Checks.with("(((abcd)5)6)");
+        CountedRopes y = Checks.with("(((abcd)5)6)");
         due("4: all of the 120", y.back(0, 120), 0);
     }
 
     private static void pull() {
-        PostRopes x = Checks.with("abBAcDdf", "aba", "aAaAa");
+        CountedRopes x = Checks.with("abBAcDdf", "aba", "aAaAa");
         due("5: three pairs", x.pull(0), 3);
         same("5: what is left", Checks.word(x, 0), "cf");
         due("5: nothing to take", x.pull(1), 0);
@@ -154,7 +154,7 @@ final class PromiseTests {
             due("5: no rope", x.pull(rope), NO_SUCH);
         }
         same("5: errors change nothing", Checks.state(x), before);
-        PostRopes y = Checks.with("aab", "abBba", "AabB");
+        CountedRopes y = Checks.with("aab", "abBba", "AabB");
         due("5: the same side does not cancel", y.pull(0), 0);
         due("5: one pair of two that overlap", y.pull(1), 1);
         same("5: whichever pair it was", Checks.word(y, 1), "aba");
@@ -163,7 +163,7 @@ final class PromiseTests {
     }
 
     private static void join() {
-        PostRopes x = Checks.with("ab", "BAc");
+        CountedRopes x = Checks.with("ab", "BAc");
         due("6: two ropes", x.join(0, 1), 5);
         same("6: one behind the other, not pulled", Checks.word(x, 0), "abBAc");
         same("6: the other stays", Checks.word(x, 1), "BAc");
@@ -172,7 +172,7 @@ final class PromiseTests {
         due("6: an empty one", x.join(1, 2), 6);
         due("6: to an empty one", x.join(2, 0), 5);
         due("6: an empty one to itself", x.join(3, 3), 0);
-        PostRopes y = Checks.with("((abc)5)4", "((abc)5)4", "a");
+        CountedRopes y = Checks.with("((abc)5)4", "((abc)5)4", "a");
         due("6: 120 are not too many", y.join(0, 1), 120);
         String before = Checks.state(y);
         due("6: 121 are", y.join(0, 2), TOO_MANY);
@@ -189,7 +189,7 @@ final class PromiseTests {
     }
 
     private static void turn() {
-        PostRopes x = Checks.with("aBcc", "abA");
+        CountedRopes x = Checks.with("aBcc", "abA");
         due("7: even", x.turn(0), 4);
         same("7: the turned word", Checks.word(x, 0), "CCbA");
         due("7: odd", x.turn(1), 3);
@@ -203,19 +203,19 @@ final class PromiseTests {
             due("7: no rope", x.turn(rope), NO_SUCH);
         }
         same("7: errors change nothing", Checks.state(x), before);
-        PostRopes y = Checks.with("aAb");
+        CountedRopes y = Checks.with("aAb");
         due("7: it is not pulled", y.turn(0), 3);
         same("7: the pair is there still", Checks.word(y, 0), "BaA");
     }
 
     private static void weave() {
-        PostRopes x = Checks.with("a", "b");
+        CountedRopes x = Checks.with("a", "b");
         due("8: four crossings", x.weave(0, 1), 4);
         same("8: the commutator", Checks.word(x, 0), "abAB");
         same("8: the other stays", Checks.word(x, 1), "b");
         due("8: the other way", x.weave(1, 0), 8);
         same("8: its own word first, pulled", Checks.word(x, 1), "babABaBA");
-        PostRopes y = Checks.with("aab", "aab", "abA", "abbA");
+        CountedRopes y = Checks.with("aab", "aab", "abA", "abbA");
         due("8: the same word falls", y.weave(0, 1), 0);
         due("8: ropes that commute", y.weave(2, 3), 0);
         due("8: with an empty one", y.weave(1, 0), 0);
@@ -228,22 +228,22 @@ final class PromiseTests {
             due("8: no other", y.weave(0, rope), NO_SUCH);
         }
         same("8: errors change nothing", Checks.state(y), before);
-        PostRopes z = Checks.with("((ab)5)3", "((cd)5)3");
+        CountedRopes z = Checks.with("((ab)5)3", "((cd)5)3");
         due("8: 120 are not too many", z.weave(0, 1), 120);
         before = Checks.state(z);
         due("8: 300 are", z.weave(0, 1), TOO_MANY);
         same("8: errors change nothing here", Checks.state(z), before);
-        PostRopes v = Checks.with("((ab)5)6", "((ab)5)6");
+        CountedRopes v = Checks.with("((ab)5)6", "((ab)5)6");
         v.join(0, 0);
         v.join(1, 1);
         due("8: 480 that are pulled to none", v.weave(0, 1), 0);
-        PostRopes w = Checks.with("((ab)5)3a", "((cd)5)3");
+        CountedRopes w = Checks.with("((ab)5)3a", "((cd)5)3");
         due("8: 122 are too many", w.weave(0, 1), TOO_MANY);
         due("8: and it is no change", w.count(8), 2);
     }
 
     private static void swap() {
-        PostRopes x = Checks.with("a", "b", "AB", "cf");
+        CountedRopes x = Checks.with("a", "b", "AB", "cf");
         due("9: together", x.swap(0, 0), 3 + 1 + 4 + 2);
         same("9: left at post", Checks.word(x, 0), "abA");
         same("9: left at post + 1", Checks.word(x, 1), "a");
@@ -256,7 +256,7 @@ final class PromiseTests {
     }
 
     private static void swapTooLong() {
-        PostRopes x = Checks.with("e", "f", "E", "F");
+        CountedRopes x = Checks.with("e", "f", "E", "F");
         due("9: back, all four", x.swap(4, 1), 1 + 3 + 1 + 3);
         same("9: left at post becomes post + 1", Checks.word(x, 0), "f");
         same("9: left at post + 1 becomes three", Checks.word(x, 1), "Fef");
@@ -266,7 +266,7 @@ final class PromiseTests {
         x.swap(4, 0);
         due("9: widths stay with the posts' numbers", x.count(4) * 100 + x.count(5), 701);
         same("9: there and back", Checks.word(x, 3), "F");
-        PostRopes y = Checks.with("fFcC", "");
+        CountedRopes y = Checks.with("fFcC", "");
         due("9: all ropes are pulled", y.swap(0, 0), 0);
         String before = Checks.state(y);
         due("9: no post above", y.swap(5, 0), NO_SUCH);
@@ -275,29 +275,29 @@ final class PromiseTests {
         due("9: back above", y.swap(0, 2), BAD_VALUE);
         due("9: back below", y.swap(4, -1), BAD_VALUE);
         same("9: errors change nothing", Checks.state(y), before);
-        PostRopes z = Checks.with("fF", "(ac)9(ac)9ac(ac)9c(ac)");
+        CountedRopes z = Checks.with("fF", "(ac)9(ac)9ac(ac)9c(ac)");
         due("9: 59 crossings", z.ofRope(1, 0), 59);
         due("9: 29 more pairs fit", z.swap(0, 0), 59 + 2 * 29);
-        PostRopes w = Checks.with("fF", "", "((ac)5)6a", "");
+        CountedRopes w = Checks.with("fF", "", "((ac)5)6a", "");
         due("9: 61 crossings at hand", w.ofRope(2, 0), 61);
         before = Checks.state(w);
         due("9: 123 are too many", w.swap(0, 0), TOO_MANY);
         same("9: no rope is changed then", Checks.state(w), before);
         for (int rope = 0; rope < 4; rope++) {
-            PostRopes t = new PostRopes();
+            CountedRopes t = new CountedRopes();
             Checks.load(t, rope, "((ac)5)6a");
             due("9: whichever rope it is", t.swap(0, 0), TOO_MANY);
             due("9: the other way it is renamed", t.swap(0, 1), 61);
         }
-        PostRopes v = Checks.with("((ac)5)6");
+        CountedRopes v = Checks.with("((ac)5)6");
         due("9: 120 are not", v.swap(0, 0), 120);
-        PostRopes u = Checks.with("a9a9a9a9a9a9a9a9a9a9");
+        CountedRopes u = Checks.with("a9a9a9a9a9a9a9a9a9a9");
         due("9: 90 in a row", u.ofRope(0, 0), 90);
         due("9: only what is pulled counts", u.swap(0, 0), 92);
     }
 
     private static void put() {
-        PostRopes x = new PostRopes();
+        CountedRopes x = new CountedRopes();
         due("10: one character", x.put('a'), 1);
         due("10: two", x.put(Checks.number("bc")), 3);
         due("10: eight", x.put(Checks.number("defABCDE")), 11);
@@ -330,7 +330,7 @@ final class PromiseTests {
     }
 
     private static void wipe() {
-        PostRopes x = new PostRopes();
+        CountedRopes x = new CountedRopes();
         due("11: empty", x.wipe(), 0);
         Checks.put(x, "abc");
         due("11: three", x.wipe(), 3);
@@ -345,7 +345,7 @@ final class PromiseTests {
     }
 
     private static void faultDue(String text, int want) {
-        PostRopes x = new PostRopes();
+        CountedRopes x = new CountedRopes();
         Checks.put(x, text);
         due("12: fault of " + text, x.fault(), want);
         due("12: and again", x.fault(), want);
@@ -417,7 +417,7 @@ final class PromiseTests {
     }
 
     private static void loadDue(String text, String want) {
-        PostRopes x = new PostRopes();
+        CountedRopes x = new CountedRopes();
         Checks.put(x, text);
         due("13: load " + text, x.load(2), want.length());
         same("13: word of " + text, Checks.word(x, 2), want);
@@ -447,7 +447,7 @@ final class PromiseTests {
         loadDue("e((a)2(b)'c)2f", "eaaBcaaBcf");
         loadDue("((((a2)2)2)2)2", Checks.times("a", 32));
         loadDue("d[(a)(b),c'](e)", "dabCBAce");
-        PostRopes x = Checks.with("ab");
+        CountedRopes x = Checks.with("ab");
         Checks.put(x, "cd");
         due("13: in place of the old one", x.load(0), 2);
         same("13: the new word", Checks.word(x, 0), "cd");
@@ -465,16 +465,16 @@ final class PromiseTests {
     }
 
     private static void loadTooLong() {
-        PostRopes x = new PostRopes();
+        CountedRopes x = new CountedRopes();
         due("13: 120", Checks.load(x, 0, "((ab)5(cd)5)6"), 120);
         for (String text : new String[] {"((ab)5(cd)5)6a", "((((a9)9)9)9)9", "[((ab)5)4,(cd)9(cd)2]", "[((ab)5)9,((ab)5)9]", "((((a9)9)9)9)'9(b)9"}) {
-            String before = Checks.state(x);
+            String before = Checks.outline(x);
             x.wipe();
             Checks.put(x, text);
             due("13: no fault in " + text, x.fault(), NONE);
             due("13: too many in " + text, x.load(1), TOO_MANY);
             due("13: the pad stays", x.wipe(), text.length());
-            same("13: nothing is changed", Checks.state(x), before);
+            same("13: nothing is changed", Checks.outline(x), before);
         }
         due("13: 120 by a bracket", Checks.load(x, 0, "[((ab)5)4,(cd)9cd]"), 120);
         due("13: 122 by a bracket", Checks.load(x, 0, "[((ab)5)4,(cd)9cde]"), TOO_MANY);
@@ -482,7 +482,7 @@ final class PromiseTests {
     }
 
     private static void crossing() {
-        PostRopes x = Checks.with("aF");
+        CountedRopes x = Checks.with("aF");
         due("14: left", x.crossing(0, 0), 0);
         due("14: right", x.crossing(0, 1), 11);
         due("14: behind the last", x.crossing(0, 2), NO_SUCH);
@@ -499,7 +499,7 @@ final class PromiseTests {
     }
 
     private static void ofRopeDue(String text, int... wants) {
-        PostRopes x = Checks.with("", text);
+        CountedRopes x = Checks.with("", text);
         x.width(0, 10);
         x.width(5, 99);
         String before = Checks.state(x);
@@ -533,7 +533,7 @@ final class PromiseTests {
         ofRopeDue("aF", 2, 109, 2, 109, 2, 1, 33, NONE, 0);
         ofRopeDue("abB", 3, 12, 1, 10, 1, 1, 1, 1, 0);
         ofRopeDue("abcdef", 6, 113, 6, 113, 6, 1, 63, NONE, 0);
-        PostRopes x = Checks.with("a");
+        CountedRopes x = Checks.with("a");
         due("15: what below", x.ofRope(0, -1), BAD_VALUE);
         due("15: what above", x.ofRope(0, 9), BAD_VALUE);
         due("15: what far above", x.ofRope(0, Integer.MAX_VALUE), BAD_VALUE);
@@ -541,12 +541,12 @@ final class PromiseTests {
             due("15: no rope", x.ofRope(rope, 0), NO_SUCH);
             due("15: the rope is looked at first", x.ofRope(rope, 9), NO_SUCH);
         }
-        PostRopes y = Checks.with("((ab)5(ab)5)6");
+        CountedRopes y = Checks.with("((ab)5(ab)5)6");
         due("15: a power of 60", y.ofRope(0, 5), 60);
     }
 
     private static void winds() {
-        PostRopes x = Checks.with("aabAcAAAcFF");
+        CountedRopes x = Checks.with("aabAcAAAcFF");
         due("16: more to the right", x.winds(0, 0), 998);
         due("16: one", x.winds(0, 1), 1001);
         due("16: two", x.winds(0, 2), 1002);
@@ -563,7 +563,7 @@ final class PromiseTests {
     }
 
     private static void leastDue(String text, String want) {
-        PostRopes x = Checks.with(text);
+        CountedRopes x = Checks.with(text);
         String before = Checks.state(x);
         same("17: least form of " + text, Checks.least(x, 0), want);
         due("17: no place behind it", x.least(0, want.length()), NO_SUCH);
@@ -588,7 +588,7 @@ final class PromiseTests {
         leastDue("acab", "abac");
         leastDue("ABab", "abAB");
         leastDue("BAfe", "eBAf");
-        PostRopes x = Checks.with("ba");
+        CountedRopes x = Checks.with("ba");
         due("17: before the first", x.least(0, -1), NO_SUCH);
         due("17: far above", x.least(0, Integer.MAX_VALUE), NO_SUCH);
         due("17: far below", x.least(0, Integer.MIN_VALUE), NO_SUCH);
@@ -599,7 +599,7 @@ final class PromiseTests {
     }
 
     private static void count() {
-        PostRopes x = Checks.with("ab", "cdC");
+        CountedRopes x = Checks.with("ab", "cdC");
         for (int post = 0; post < 6; post++) {
             x.width(post, 10 + post);
         }
@@ -619,7 +619,7 @@ final class PromiseTests {
     }
 
     private static void falls() {
-        PostRopes x = Checks.with("[a,b]", "cC", "acAbC");
+        CountedRopes x = Checks.with("[a,b]", "cC", "acAbC");
         due("19: as it is", x.falls(0, 0), 0);
         due("19: without the first", x.falls(0, 1), 1);
         due("19: without the second", x.falls(0, 2), 1);
@@ -638,7 +638,7 @@ final class PromiseTests {
     }
 
     private static void fellingDue(String text, int many, int best) {
-        PostRopes x = Checks.with(text);
+        CountedRopes x = Checks.with(text);
         String before = Checks.state(x);
         due("20: how many for " + text, x.felling(0, 0), many);
         due("20: the best for " + text, x.felling(0, 1), best);
@@ -661,7 +661,7 @@ final class PromiseTests {
         fellingDue("[a,b][b,c]", 2, 2);
         fellingDue("[a,b][c,d]", 4, 5);
         fellingDue("acAbC", 2, 3);
-        PostRopes x = Checks.with("a");
+        CountedRopes x = Checks.with("a");
         due("20: what below", x.felling(0, -1), BAD_VALUE);
         due("20: what above", x.felling(0, 2), BAD_VALUE);
         for (int rope : NO_ROPES) {
@@ -671,7 +671,7 @@ final class PromiseTests {
     }
 
     private static void bothDue(String one, String two, int alike, int alikeTurned, int commute, int same) {
-        PostRopes x = Checks.with(one, two);
+        CountedRopes x = Checks.with(one, two);
         String before = Checks.state(x);
         int[] wants = {alike, alikeTurned, commute, same};
         for (int what = 0; what < 4; what++) {
@@ -700,7 +700,7 @@ final class PromiseTests {
         bothDue("[a,b]", "[b,a]", 0, 1, 1, 0);
         bothDue("[a,b]", "[b,A]", 1, 0, 0, 0);
         bothDue("abA", "b", 1, 0, 0, 0);
-        PostRopes x = Checks.with("[a,b]", "ab");
+        CountedRopes x = Checks.with("[a,b]", "ab");
         due("21: alike to itself", x.both(0, 0, 0), 1);
         due("21: not alike to itself turned", x.both(0, 0, 1), 0);
         due("21: commutes with itself", x.both(0, 0, 2), 1);
@@ -712,7 +712,7 @@ final class PromiseTests {
             due("21: no other", x.both(0, rope, 0), NO_SUCH);
             due("21: the ropes are looked at first", x.both(0, rope, 4), NO_SUCH);
         }
-        PostRopes y = Checks.with("((ab)5)6", "((ab)5)6");
+        CountedRopes y = Checks.with("((ab)5)6", "((ab)5)6");
         y.join(0, 0);
         y.join(1, 1);
         y.turn(1);
@@ -722,7 +722,7 @@ final class PromiseTests {
     }
 
     private static void cutsDue(String text, int want) {
-        PostRopes x = Checks.with(text);
+        CountedRopes x = Checks.with(text);
         String before = Checks.state(x);
         due("22: cuts of " + text, x.cuts(0), want);
         due("22: of another rope", x.cuts(1), 0);
@@ -751,7 +751,7 @@ final class PromiseTests {
         cutsDue("ca2bAdAeb", 5);
         cutsDue("abaBA", 1);
         cutsDue("abacABaC", 4);
-        PostRopes x = Checks.with("((ab)5(ab)5)6");
+        CountedRopes x = Checks.with("((ab)5(ab)5)6");
         due("22: nothing cancels", x.cuts(0), 120);
         for (int rope : NO_ROPES) {
             due("22: no rope", x.cuts(rope), NO_SUCH);
@@ -759,7 +759,7 @@ final class PromiseTests {
     }
 
     private static void ifSwapped() {
-        PostRopes x = Checks.with("a", "b", "AB", "cffF");
+        CountedRopes x = Checks.with("a", "b", "AB", "cffF");
         String before = Checks.state(x);
         due("23: as by swap", x.ifSwapped(0, 0), 3 + 1 + 4 + 2);
         due("23: back", x.ifSwapped(0, 1), 1 + 3 + 4 + 2);
@@ -773,20 +773,20 @@ final class PromiseTests {
         due("23: back above", x.ifSwapped(0, 2), BAD_VALUE);
         same("23: nothing changes", Checks.state(x), before);
         due("23: swap answers the same", x.swap(0, 0), 10);
-        PostRopes y = Checks.with("((ac)5)6", "((ac)5)6", "((ac)5)6", "((ac)5)6");
+        CountedRopes y = Checks.with("((ac)5)6", "((ac)5)6", "((ac)5)6", "((ac)5)6");
         for (int rope = 0; rope < 4; rope++) {
             y.join(rope, rope);
         }
         due("23: also beyond 120", y.ifSwapped(0, 0), 4 * 240);
         due("23: swap does not", y.swap(0, 0), TOO_MANY);
-        PostRopes z = Checks.with("((ac)5)6");
+        CountedRopes z = Checks.with("((ac)5)6");
         z.join(0, 0);
         due("23: a rope that doubles", z.ifSwapped(0, 0), 240);
         due("23: a rope that is renamed", z.ifSwapped(0, 1), 120);
     }
 
     private static void bestSwap() {
-        PostRopes x = new PostRopes();
+        CountedRopes x = new CountedRopes();
         due("24: none has the lowest post", x.bestSwap(0), 0);
         due("24: and back 0", x.bestSwap(1), 0);
         due("24: and no crossings", x.bestSwap(2), 0);
@@ -800,24 +800,24 @@ final class PromiseTests {
         bestDue("eFE", 4, 1, 1);
         due("24: what below", x.bestSwap(-1), BAD_VALUE);
         due("24: what above", x.bestSwap(3), BAD_VALUE);
-        PostRopes y = Checks.with("((ab)5)6", "((cd)5)6", "((ef)5)6");
+        CountedRopes y = Checks.with("((ab)5)6", "((cd)5)6", "((ef)5)6");
         for (int rope = 0; rope < 3; rope++) {
             y.join(rope, rope);
         }
-        String before = Checks.state(y);
+        String before = Checks.outline(y);
         due("24: fewest with long ropes", y.bestSwap(2), y.ifSwapped(y.bestSwap(0), y.bestSwap(1)));
-        same("24: nothing changes", Checks.state(y), before);
+        same("24: nothing changes", Checks.outline(y), before);
     }
 
     private static void bestDue(String text, int post, int back, int many) {
-        PostRopes x = Checks.with(text);
+        CountedRopes x = Checks.with(text);
         due("24: post of " + text, x.bestSwap(0), post);
         due("24: back of " + text, x.bestSwap(1), back);
         due("24: fewest of " + text, x.bestSwap(2), many);
     }
 
     private static void undo() {
-        PostRopes x = new PostRopes();
+        CountedRopes x = new CountedRopes();
         due("25: nothing to undo", x.undo(), NOT_POSSIBLE);
         for (int post = 0; post < 6; post++) {
             x.width(post, 30 + post);
@@ -848,7 +848,7 @@ final class PromiseTests {
     }
 
     private static void undoLimits() {
-        PostRopes x = Checks.with("ab");
+        CountedRopes x = Checks.with("ab");
         x.undo();
         for (int many = 1; many <= 9; many++) {
             x.cross(0, 0);
@@ -874,7 +874,7 @@ final class PromiseTests {
 
     /** Each method that is a change records one state, also if nothing is different then. */
     private static void eachChange() {
-        PostRopes x = Checks.with("a", "b");
+        CountedRopes x = Checks.with("a", "b");
         x.undo();
         x.undo();
         x.width(0, 1);
@@ -898,7 +898,7 @@ final class PromiseTests {
     }
 
     private static void save() {
-        PostRopes x = Checks.with("ab", "c");
+        CountedRopes x = Checks.with("ab", "c");
         x.width(3, 33);
         int before = x.count(8);
         due("26: all crossings", x.save(0), 3);
@@ -917,7 +917,7 @@ final class PromiseTests {
     }
 
     private static void restore() {
-        PostRopes x = Checks.with("ab");
+        CountedRopes x = Checks.with("ab");
         x.width(1, 5);
         due("27: nothing saved", x.restore(0), NOT_POSSIBLE);
         x.save(0);
