@@ -4,6 +4,7 @@ import java.lang.reflect.Method;
 import java.lang.reflect.Modifier;
 import java.nio.file.Files;
 import java.nio.file.Path;
+import java.util.ArrayList;
 import java.util.Arrays;
 import java.util.List;
 import java.util.Set;
@@ -19,6 +20,12 @@ final class FaceTest {
         "ofRope int int", "pull int", "put long", "restore int", "save int", "swap int int", "turn int", "undo",
         "weave int int", "width int int", "winds int int", "wipe");
     private static final List<String> CONSTANTS = List.of("BAD_TEXT", "BAD_VALUE", "NONE", "NOT_POSSIBLE", "NO_SUCH", "TOO_MANY");
+    /** The part of LANGUAGE.md's library that the program uses; a name that is added here has to stand there. */
+    private static final Set<String> LIBRARY = Set.of("Math.max", "Math.min", "Math.floorMod", "Integer.bitCount");
+    private static final int MOST_LINES = 60;
+    private static final int MOST_PARAMETERS = 7;
+    private static final int MOST_FIELDS = 20;
+    private static final int MOST_CLASSES = 12;
     private static final List<String> RULED_OUT = List.of(
         "\\bthrow\\b", "\\bthrows\\b", "\\btry\\b", "\\bcatch\\b", "\\bsynchronized\\b", "\\bassert\\b", "->", "::", "\\bimport\\b",
         "\\bpackage\\b", "\\bprotected\\b", "\\bObject\\b", "\\bvar\\b", "\\bvolatile\\b", "\\btransient\\b", "\\bnative\\b");
@@ -29,7 +36,11 @@ final class FaceTest {
     static void all(String source) throws IOException {
         constants();
         members();
-        text(Files.readString(Path.of(source)));
+        sizes();
+        String bare = bare(Files.readString(Path.of(source)));
+        text(bare);
+        library(bare);
+        lines(bare);
     }
 
     private static void constants() {
@@ -68,10 +79,10 @@ final class FaceTest {
         Checks.due("the constructors", PostRopes.class.getDeclaredConstructors().length, 1);
         Checks.holds("the class is public and final",
             Modifier.isPublic(PostRopes.class.getModifiers()) && Modifier.isFinal(PostRopes.class.getModifiers()));
-        Checks.holds("few classes inside", PostRopes.class.getDeclaredClasses().length <= 11);
         for (Class<?> inside : PostRopes.class.getDeclaredClasses()) {
             Checks.holds(inside.getName() + " is static", Modifier.isStatic(inside.getModifiers()));
-            Checks.holds(inside.getName() + " has few fields", inside.getDeclaredFields().length <= 20);
+            Checks.holds(inside.getName() + " is not public or protected",
+                (inside.getModifiers() & (Modifier.PUBLIC | Modifier.PROTECTED)) == 0);
             for (Field field : inside.getDeclaredFields()) {
                 Checks.holds(field.getName() + " is final if it is static",
                     !Modifier.isStatic(field.getModifiers()) || Modifier.isFinal(field.getModifiers()));
@@ -79,12 +90,64 @@ final class FaceTest {
         }
     }
 
-    private static void text(String source) {
-        String bare = source.replaceAll("(?s)/\\*.*?\\*/", "").replaceAll("//[^\n]*", "").replaceAll("'(\\\\.|[^\\\\])'", "0");
+    private static List<Class<?>> classes() {
+        List<Class<?>> classes = new ArrayList<>(List.of(PostRopes.class.getDeclaredClasses()));
+        classes.add(PostRopes.class);
+        return classes;
+    }
+
+    /** Rule 11, but for the depth of calls. */
+    private static void sizes() {
+        Checks.holds("few classes", classes().size() <= MOST_CLASSES);
+        for (Class<?> one : classes()) {
+            long fields = Arrays.stream(one.getDeclaredFields()).filter(field -> !Modifier.isStatic(field.getModifiers())).count();
+            Checks.holds(one.getName() + " has few fields beside its constants", fields <= MOST_FIELDS);
+            for (Method method : one.getDeclaredMethods()) {
+                Checks.holds(method.getName() + " takes few parameters", method.getParameterCount() <= MOST_PARAMETERS);
+            }
+        }
+    }
+
+    /** The source without comments, and with a 0 in the place of each character constant. */
+    private static String bare(String source) {
+        Checks.holds("signs 1 to 127 alone in the source", source.chars().allMatch(c -> c >= 1 && c <= 127));
+        return source.replaceAll("(?s)/\\*.*?\\*/", "").replaceAll("//[^\n]*", "").replaceAll("'(\\\\.|[^\\\\])'", "0");
+    }
+
+    private static void text(String bare) {
         for (String ruledOut : RULED_OUT) {
             Matcher matcher = Pattern.compile(ruledOut).matcher(bare);
             Checks.holds("no " + ruledOut + " in the source", !matcher.find());
         }
-        Checks.holds("signs 1 to 127 alone in the source", source.chars().allMatch(c -> c >= 1 && c <= 127));
+    }
+
+    /** Rule 4: a name with a small letter behind a capital one is one of the program's own classes, or stands in the library. */
+    private static void library(String bare) {
+        Set<String> own = new TreeSet<>();
+        Matcher classes = Pattern.compile("\\bclass (\\w+)").matcher(bare);
+        while (classes.find()) {
+            own.add(classes.group(1));
+        }
+        Matcher names = Pattern.compile("\\b[A-Z]\\w*[a-z]\\w*(\\.\\w+)?").matcher(bare);
+        while (names.find()) {
+            String owner = names.group().replaceAll("\\..*", "");
+            Checks.holds(names.group() + " is in the library", own.contains(owner) || LIBRARY.contains(names.group()));
+        }
+    }
+
+    /** Rule 11: methods stay short; each one ends at the first brace that stands as far to the right as its first line. */
+    private static void lines(String bare) {
+        Matcher methods = Pattern.compile("(?ms)^( {4}| {8})(?! )[^\n;=]*\\) \\{\n.*?^\\1\\}$").matcher(bare);
+        int found = 0;
+        while (methods.find()) {
+            found++;
+            String method = methods.group();
+            Checks.holds(method.lines().findFirst().orElse("").strip() + " is short", method.lines().count() <= MOST_LINES);
+        }
+        int declared = 0;
+        for (Class<?> one : classes()) {
+            declared += one.getDeclaredMethods().length + one.getDeclaredConstructors().length;
+        }
+        Checks.due("methods and constructors found in the source", found, declared);
     }
 }
